@@ -268,7 +268,7 @@ public final class ChiefCircles {
             case 1: return now.mail.field(k, TO);
             case 2: return kind;
             case 3: return now.mail.field(k, DUE) - now.clock;
-            case 4: return kind == CHIEF || kind == NO ? NONE : now.mail.field(k, GROUP);
+            case 4: return now.mail.field(k, GROUP);
             case 5: return kind == INVITE ? now.mail.field(k, EXTRA) : NONE;
             default: return kind == READY ? now.mail.field(k, EXTRA) : NONE;
         }
@@ -396,7 +396,9 @@ public final class ChiefCircles {
             } else {
                 world.mend();
             }
-            world.run(draws.next(12) + 1);
+            for (int left = draws.next(12) + 1; left > 0; left--) {
+                world.exchange();
+            }
         }
         world.mend();
         for (int i = 0; i < world.members; i++) {
@@ -409,7 +411,7 @@ public final class ChiefCircles {
     private static int untilOne(World world) {
         for (int time = 0; time <= FAR_TICKS; time++) {
             if (time > 0) {
-                world.tick();
+                world.exchange();
             }
             if (Survey.isOne(world)) {
                 return time;
@@ -928,13 +930,7 @@ public final class ChiefCircles {
         }
 
         int tick() {
-            clock++;
-            int handled = deliver();
-            for (int i = 0; i < members; i++) {
-                if (member[i].state != DOWN && member[i].alarm == clock) {
-                    wake(member[i]);
-                }
-            }
+            int handled = exchange();
             for (int i = 0; i < members; i++) {
                 labour(member[i]);
                 member[i].tallies[member[i].state]++;
@@ -942,22 +938,28 @@ public final class ChiefCircles {
             return handled;
         }
 
-        private int deliver() {
+        /** A tick without its units and tallies: these sway no letter, so who asks for ONE alone can spare them. */
+        int exchange() {
+            clock++;
             int handled = 0;
             int earlier = mail.size;
             for (int k = 0; k < earlier; k++) {
                 if (mail.field(k, DUE) == clock) {
                     mail.come++;
                     if (arrives(k)) {
-                        handled++;
-                        mail.handledOf[mail.field(k, KIND)]++;
                         handle(k);
+                        handled++;
                     } else {
                         mail.lost++;
                     }
                 }
             }
             mail.dropDue(clock);
+            for (int i = 0; i < members; i++) {
+                if (member[i].state != DOWN && member[i].alarm == clock) {
+                    wake(member[i]);
+                }
+            }
             return handled;
         }
 
@@ -970,7 +972,9 @@ public final class ChiefCircles {
             Member i = member[mail.field(k, TO)];
             int from = mail.field(k, FROM);
             int group = mail.field(k, GROUP);
-            switch (mail.field(k, KIND)) {
+            int kind = mail.field(k, KIND);
+            mail.handledOf[kind]++;
+            switch (kind) {
                 case ASK:
                     onAsk(i, from, group);
                     break;
@@ -1071,6 +1075,9 @@ public final class ChiefCircles {
                     break;
                 case ASKING:
                     weigh(i);
+                    if (i.phase == YIELDING && i.alarm == clock) {
+                        merge(i);
+                    }
                     break;
                 case YIELDING:
                     merge(i);
@@ -1101,13 +1108,8 @@ public final class ChiefCircles {
         private void weigh(Member i) {
             if (i.found == 0 && (i.up & ~i.bit() & ~i.heard) == 0) {
                 await(i, QUIET, rules[EVERY]);
-                return;
-            }
-            int pause = Integer.bitCount(i.found & i.above) * rules[GAP];
-            if (pause == 0) {
-                merge(i);
             } else {
-                await(i, YIELDING, pause);
+                await(i, YIELDING, Integer.bitCount(i.found & i.above) * rules[GAP]);
             }
         }
 
@@ -1139,7 +1141,7 @@ public final class ChiefCircles {
         private void sendToAll(Member i, int set, int kind, int group, int extra) {
             for (int j = 0; j < members; j++) {
                 if (j != i.number && (set & 1 << j) != 0) {
-                    send(i, j, kind, group, extra);
+                    mail.add(i, j, kind, clock + rules[DELAY], group, extra);
                 }
             }
         }

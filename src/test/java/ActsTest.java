@@ -119,6 +119,19 @@ public final class ActsTest {
             Check.due("clock", 4 + k, x.told(6));
         }
         Check.due("undo", -1, x.undo());
+        takenBackOneByOne(Check.made("members 4;ranks 9 3 7 5;every 3;wait 3;"));
+        refusalsAndTapeStay(x);
+    }
+
+    private static void takenBackOneByOne(ChiefCircles x) {
+        x.ticks(30);
+        Check.text(x, "members 4;ranks 9 3 7 5;every 3;wait 3;");
+        x.cut(6);
+        x.heal();
+        x.ticks(17);
+        x.fall(1);
+        x.rise(1);
+        x.ticks(6);
         String before = picture(x);
         x.ticks(30);
         x.cut(5);
@@ -136,13 +149,17 @@ public final class ActsTest {
         Check.due("fall taken back", 0, x.member(3, 1));
         x.undo();
         Check.due("cut taken back", x.link(0, 1));
-        Check.due("none left behind this", 0, x.undo());
+        Check.due("those ahead are left", 2, x.undo());
         Check.due("all as ahead", before.equals(picture(x)));
         x.ticks(30);
         String then = picture(x);
         x.undo();
         x.ticks(30);
         Check.due("the same again", then.equals(picture(x)));
+    }
+
+    private static void refusalsAndTapeStay(ChiefCircles x) {
+        x.heal();
         Check.refuses("fall(9)", NoSuchElementException.class, () -> x.fall(9));
         x.feed(1, 2, 3, 4, 5);
         x.undo();

@@ -64,6 +64,13 @@ public final class OnPaperTest {
         ChiefCircles far = Check.made("members 2;every 30;wait 30;gap 30;");
         far.rule(1, 29);
         Check.due("30 + 3 times 29 + 1", 118, far.until());
+        Check.due("the last of 300", 300, Check.made("members 2;every 30;wait 23;gap 1;delay 3;").until());
+        ChiefCircles later = Check.made("members 2;every 30;wait 24;gap 1;delay 3;");
+        later.ticks(8);
+        Check.due("one later", -1, later.until());
+        Check.due("one later", -1, later.untilRule(0, 30));
+        later.ticks(1);
+        Check.due("the last of 300", 300, later.until());
         Check.due("no answer in time", -1, Check.made("members 2;wait 1;").until());
     }
 

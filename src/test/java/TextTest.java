@@ -5,6 +5,8 @@ public final class TextTest {
         tape();
         whatIsTold();
         faults();
+        endsEarly();
+        wholeTape();
         allAnew();
         refusedTexts();
         Check.end();
@@ -99,6 +101,7 @@ public final class TextTest {
         fault("member", 1, 0);
         fault("  Members 2;", 1, 2);
         fault("memberss 2;", 1, 0);
+        fault("nembers 2;", 1, 0);
         fault(";", 1, 0);
         fault("members", 1, 7);
         fault("members  ", 1, 9);
@@ -120,6 +123,12 @@ public final class TextTest {
         fault("members 2;7", 1, 10);
         fault("members 2; job 2;", 1, 11);
         fault("members 2;jobsx 2;", 1, 10);
+        fault("members 2;jobsz 2;", 1, 10);
+        fault("members 2;jobs{2;", 1, 14);
+        fault("members 2;jobs`2;", 1, 14);
+        fault("members 2;jobs 2:", 1, 16);
+        fault("members 2;jobs /", 1, 15);
+        fault("members 2;jobs :", 1, 15);
         fault("members 2;jobs", 1, 14);
         fault("members 2;jobs;", 1, 14);
         fault("members 2;jobs 2", 1, 16);
@@ -144,6 +153,39 @@ public final class TextTest {
         fault("members 2;gap 2;gap 2;", 4, 16);
         fault("members 2;delay 2;delay 2;", 4, 18);
         fault("members 2;jobs 2;gap 2;jobs", 4, 23);
+    }
+
+    /** What stands on the tape behind the first n bytes tells nothing. */
+    private static void endsEarly() {
+        String text = " members 3;ranks 11 22 33;jobs 25;  gap  29;  ";
+        for (int n = 0; n < text.length(); n++) {
+            ChiefCircles x = new ChiefCircles();
+            Check.feed(x, text);
+            boolean whole = n == 11 || n == 26 || n >= 34 && n <= 36 || n >= 44;
+            boolean number = n >= 33;
+            int due = number ? -8 : whole ? 3 : -9;
+            Check.due("text(" + n + ")", due, x.text(n));
+            Check.due("fault of " + n, number ? 31 : whole ? -1 : n == 0 ? 0 : early(n), x.fault());
+        }
+    }
+
+    /** A word that is not whole is a fault at its first byte, all else one at the end. */
+    private static int early(int n) {
+        return n > 1 && n < 8 ? 1 : n > 11 && n < 16 ? 11 : n > 26 && n < 30 ? 26 : n;
+    }
+
+    private static void wholeTape() {
+        String[] ends = {"members 8;", "members 8", "members 8;gap 2", "members", "members 8; ", "members 8;jobs"};
+        int[] kinds = {0, 1, 1, 1, 0, 1};
+        for (int k = 0; k < ends.length; k++) {
+            StringBuilder text = new StringBuilder(ends[k]);
+            while (text.length() < 200) {
+                text.insert(0, ' ');
+            }
+            ChiefCircles x = new ChiefCircles();
+            Check.due("a whole tape", kinds[k] == 0 ? 8 : kinds[k] - 10, Check.text(x, text.toString()));
+            Check.due("a whole tape", kinds[k] == 0 ? -1 : 200, x.fault());
+        }
     }
 
     private static void allAnew() {

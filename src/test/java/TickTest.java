@@ -11,6 +11,10 @@ public final class TickTest {
         staleMembersAreToldNo();
         readyIsLost();
         chiefMissesOne();
+        whoElectsSaysNo();
+        ledgersAreLearned();
+        handedOnButToTheChief();
+        strayLetters();
         work();
         Check.end();
     }
@@ -234,6 +238,111 @@ public final class TickTest {
         is("one of two", x, 0, 0, 0, 30, 3, 1, 3);
         Check.due("one", 1, x.told(11));
         Check.due("who is down holds its chief", 0, x.member(2, 2));
+    }
+
+    /** By delays that grow shorter THERE comes behind the ACCEPT that was sent later. */
+    private static void whoElectsSaysNo() {
+        ChiefCircles x = new ChiefCircles();
+        x.ticks(20);
+        x.rule(0, 12);
+        x.ticks(8);
+        x.cut(1);
+        x.ticks(1);
+        x.heal();
+        x.ticks(2);
+        x.rule(3, 2);
+        x.ticks(1);
+        is("32 merges", x, 0, 1, 0, 30, 1, 4, 8);
+        x.rule(3, 3);
+        x.ticks(1);
+        letter("33 asks", x, 1, 1, 0, 2, 3, 20, -1, -1);
+        x.rule(3, 1);
+        x.ticks(1);
+        is("34 accepts", x, 1, 1, 0, 30, 2, 6, 12);
+        x.ticks(1);
+        Check.due("35 gathered", 3, x.member(0, 5));
+        x.ticks(1);
+        Check.due("36 says no", 1, x.sent(4, 0));
+        Check.due("and not yes", 0, x.sent(3, 0));
+        x.ticks(1);
+        is("37 pays no heed", x, 1, 1, 0, 30, 2, 6, 9);
+    }
+
+    private static void ledgersAreLearned() {
+        ChiefCircles x = Check.made("members 2;jobs 2;every 8;wait 4;");
+        x.fall(1);
+        x.ticks(6);
+        x.rise(1);
+        x.ticks(15);
+        Check.due("the member learns by READY", 6, x.units(1, 0, 0));
+        Check.due("what it did not do", 3, x.units(1, 0, 1));
+        Check.due("and goes on from there", 6, x.units(1, 1, 0));
+        Check.due("with its own work", 4, x.units(1, 1, 1));
+        ChiefCircles y = Check.made("members 2;jobs 1;every 8;wait 4;gap 30;");
+        y.fall(0);
+        y.ticks(6);
+        y.rise(0);
+        y.ticks(8);
+        Check.due("each its own", 8, y.units(0, 0, 0));
+        Check.due("each its own", 14, y.units(1, 0, 0));
+        y.ticks(4);
+        Check.due("merges", 1, y.member(0, 1));
+        Check.due("before", 11, y.units(0, 0, 0));
+        y.ticks(2);
+        Check.due("the chief learns by ACCEPT", 18, y.units(0, 0, 0));
+        Check.due("and its work is its own", 11, y.units(0, 0, 1));
+    }
+
+    /** 1 leads 0 and 2, rises from a fall as another circle's guest: the INVITE goes on to all but its sender. */
+    private static void handedOnButToTheChief() {
+        ChiefCircles x = Check.made("members 3;ranks 1 9 2;every 4;wait 4;gap 5;");
+        x.ticks(17);
+        is("1 leads all", x, 1, 0, 1, 21, 7, 1, 3);
+        x.fall(0);
+        x.rise(0);
+        x.rule(0, 30);
+        x.ticks(3);
+        x.rule(1, 2);
+        x.ticks(1);
+        is("0 asks", x, 0, 0, 0, 20, 1, 2, 2);
+        is("1 asks, too", x, 1, 0, 1, 21, 7, 2, 3);
+        x.rule(2, 0);
+        x.ticks(2);
+        is("0 merges first", x, 0, 1, 0, 30, 1, 4, 4);
+        Check.due("one invite", 1, x.sent(5, 0) - 2);
+        x.ticks(1);
+        Check.due("is handed on to 2 alone", 2, x.sent(5, 0) - 2);
+    }
+
+    private static void strayLetters() {
+        ChiefCircles x = new ChiefCircles();
+        x.ticks(8);
+        x.fall(0);
+        x.rise(0);
+        x.ticks(2);
+        Check.due("CHIEF counts in PHASE 2 alone", 0, x.member(0, 6));
+        Check.due("but in that", 1, x.member(1, 6));
+        ChiefCircles y = new ChiefCircles();
+        y.ticks(13);
+        y.fall(0);
+        y.rise(0);
+        y.ticks(1);
+        Check.due("ACCEPT is handled", 1, y.sent(6, 1));
+        is("but of another group", y, 0, 0, 0, 30, 1, 1, 7);
+        ChiefCircles z = new ChiefCircles();
+        z.ticks(20);
+        z.fall(1);
+        z.rise(1);
+        z.ticks(1);
+        Check.due("READY is handled", 1, z.sent(7, 1));
+        is("but not in PHASE 6", z, 1, 0, 1, 21, 2, 1, 7);
+        Check.due("nor counted", 0, z.tally(1, 6));
+        ChiefCircles n = new ChiefCircles();
+        n.ticks(30);
+        n.fall(0);
+        n.rise(0);
+        n.ticks(1);
+        is("YES was under way", n, 1, 0, 0, 20, 3, 1, 8);
     }
 
     private static void work() {
