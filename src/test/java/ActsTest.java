@@ -132,7 +132,7 @@ public final class ActsTest {
         x.fall(1);
         x.rise(1);
         x.ticks(6);
-        String before = picture(x);
+        String before = Picture.of(x);
         x.ticks(30);
         x.cut(5);
         x.fall(3);
@@ -150,12 +150,12 @@ public final class ActsTest {
         x.undo();
         Check.due("cut taken back", x.link(0, 1));
         Check.due("those ahead are left", 2, x.undo());
-        Check.due("all as ahead", before.equals(picture(x)));
+        Check.due("all as ahead", before.equals(Picture.of(x)));
         x.ticks(30);
-        String then = picture(x);
+        String then = Picture.of(x);
         x.undo();
         x.ticks(30);
-        Check.due("the same again", then.equals(picture(x)));
+        Check.due("the same again", then.equals(Picture.of(x)));
     }
 
     private static void refusalsAndTapeStay(ChiefCircles x) {
@@ -165,37 +165,5 @@ public final class ActsTest {
         x.undo();
         Check.due("refusals stay", 1, x.status(0));
         Check.due("the tape is no part of an act", 20, x.told(15));
-    }
-
-    private static String picture(ChiefCircles x) {
-        StringBuilder text = new StringBuilder();
-        for (int what = 0; what <= 18; what++) {
-            text.append(what == 14 ? 0 : x.told(what)).append(' ');
-        }
-        for (int i = 0; i < x.told(0); i++) {
-            for (int what = 0; what <= 12; what++) {
-                text.append(x.member(i, what)).append(' ');
-            }
-            for (int what = 0; what < 7; what++) {
-                text.append(x.tally(i, what)).append(' ');
-            }
-            for (int job = 0; job < x.told(1); job++) {
-                text.append(x.units(i, job, 0)).append(' ').append(x.units(i, job, 1)).append(' ');
-            }
-        }
-        for (int kind = 0; kind < 8; kind++) {
-            text.append(x.sent(kind, 0)).append(' ').append(x.sent(kind, 1)).append(' ');
-        }
-        for (int k = 0; k < x.told(7); k++) {
-            for (int what = 0; what < 7; what++) {
-                text.append(x.letter(k, what)).append(' ');
-            }
-        }
-        for (int k = 0; k < x.told(16); k++) {
-            for (int what = 0; what < 4; what++) {
-                text.append(x.change(k, what)).append(' ');
-            }
-        }
-        return text.toString();
     }
 }

@@ -62,4 +62,15 @@ final class Check {
         due("text " + text, text.charAt(8) - '0', text(x, text));
         return x;
     }
+
+    /** The text has a fault of this kind at this place, and all but the tape stays. */
+    static void fault(String text, int kind, int place) {
+        ChiefCircles x = new ChiefCircles();
+        x.rule(0, 5);
+        due("text '" + text + "'", kind - 10, text(x, text));
+        due("fault of '" + text + "'", place, x.fault());
+        due("empty then", 0, x.told(15));
+        due("all stays", 5, x.told(2));
+        due("and can be taken back", 0, x.undo());
+    }
 }

@@ -8,14 +8,19 @@ public final class ModelTest {
     private static final int[] ODD = {-1, 0, 1, 2, 8, 9, 30, 31, 100, 101, 255, 256, Integer.MIN_VALUE,
         Integer.MAX_VALUE};
 
+    private static int full;
+
     public static void main(String[] args) {
         int runs = args.length > 0 ? Integer.parseInt(args[0]) : 300;
         int first = args.length > 1 ? Integer.parseInt(args[1]) : 1;
         int wrong = 0;
         for (int seed = first; seed < first + runs && wrong < 10; seed++) {
             wrong += run(seed) ? 0 : 1;
+            wrong += seed % 3 > 0 || crowdedRun(seed) ? 0 : 1;
         }
-        System.out.println(runs + " random runs, " + wrong + " not as the model's");
+        wrong += full > 0 ? 0 : 1;
+        System.out.println(runs + " random runs, and " + full + " in which 300 letters were under way: "
+            + wrong + " not as the model's");
         System.exit(wrong == 0 ? 0 : 1);
     }
 
@@ -50,6 +55,52 @@ public final class ModelTest {
             }
         }
         return true;
+    }
+
+    /** All fall and rise in nearly each tick, so that they ask again and again, and 300 letters are under way. */
+    private static boolean crowdedRun(int seed) {
+        Random random = new Random(seed);
+        ChiefCircles x = new ChiefCircles();
+        Model model = new Model();
+        StringBuilder log = new StringBuilder();
+        String text = "members 8;every 1;wait " + (1 + random.nextInt(3)) + ";gap " + random.nextInt(3) + ";delay 3;";
+        boolean alike = Check.text(x, text) == 8 && text(model, text) == 8;
+        int lost = 0;
+        for (int k = 0; k < 22 && alike; k++) {
+            alike = same(x, model, "ticks", new int[] {1, 0, 0, 0, 0}, log, seed);
+            for (int i = 0; i < 8 && alike; i++) {
+                if (random.nextInt(9) > 0) {
+                    alike = same(x, model, "fall", new int[] {i, 0, 0, 0, 0}, log, seed)
+                        && same(x, model, "rise", new int[] {i, 0, 0, 0, 0}, log, seed);
+                }
+            }
+            String name = random.nextInt(5) > 0 ? "until" : random.nextBoolean() ? "ahead" : "rule";
+            int[] what = {2, 2, 0, 0, 0};
+            if (name.equals("rule")) {
+                what = new int[] {3, 1 + random.nextInt(3), 0, 0, 0};
+            }
+            alike = alike && same(x, model, name, what, log, seed);
+            for (int part : new int[] {7, 8, 11, 13}) {
+                alike = alike && same(x, model, "told", new int[] {part, 0, 0, 0, 0}, log, seed);
+            }
+            if (x.told(7) == 300) {
+                lost = x.told(8);
+                alike = alike && same(x, model, "letter", new int[] {299, random.nextInt(7), 0, 0, 0}, log, seed);
+            }
+        }
+        full += lost > 0 ? 1 : 0;
+        return alike;
+    }
+
+    private static long text(Model model, String text) {
+        for (int at = 0; at < text.length(); at += 20) {
+            int[] a = new int[5];
+            for (int k = 0; k < 20; k++) {
+                a[k / 4] = a[k / 4] << 8 | (at + k < text.length() ? text.charAt(at + k) : 0);
+            }
+            model.call("feed", a);
+        }
+        return model.call("text", text.length());
     }
 
     private static boolean same(ChiefCircles x, Model model, String name, int[] a, StringBuilder log, int seed) {

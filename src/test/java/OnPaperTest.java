@@ -150,7 +150,7 @@ public final class OnPaperTest {
     }
 
     /** The same as the document says, by acts of the face itself. */
-    private static int[] storm(String text, int before, int seed) {
+    static int storm(String text, int before, int seed) {
         ChiefCircles x = Check.made(text);
         if (before > 0) {
             x.ticks(before);
@@ -179,7 +179,7 @@ public final class OnPaperTest {
                 x.rise(i);
             }
         }
-        return new int[] {x.until()};
+        return x.until();
     }
 
     private static int draw(long[] x, int m) {
@@ -196,7 +196,7 @@ public final class OnPaperTest {
                     if (before > 0) {
                         x.ticks(before);
                     }
-                    int time = storm(text, before, seed)[0];
+                    int time = storm(text, before, seed);
                     Check.due("ended", time == -1 ? 0 : 1, x.storms(1, seed, 0));
                     Check.due("greatest", Math.max(time, 0), x.storms(1, seed, 1));
                     Check.due("sum", Math.max(time, 0), x.storms(1, seed, 2));
@@ -210,7 +210,7 @@ public final class OnPaperTest {
         for (int seed : new int[] {5, Integer.MAX_VALUE - 3}) {
             int[] due = new int[3];
             for (int k = 0; k < 20; k++) {
-                int time = storm(text, 0, seed + k)[0];
+                int time = storm(text, 0, seed + k);
                 due[0] += time == -1 ? 0 : 1;
                 due[1] = Math.max(due[1], time);
                 due[2] += Math.max(time, 0);
