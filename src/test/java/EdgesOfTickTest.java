@@ -32,6 +32,7 @@ public final class EdgesOfTickTest {
         askOfWhoElects();
         chiefOutOfPhase2();
         thereIsNotHeard();
+        thereOfEach();
         thereToAnotherGroup();
         thereOfTheOldGroup();
         thereToNoChief();
@@ -387,6 +388,22 @@ public final class EdgesOfTickTest {
         Check.due("not heard", 0, x.member(0, 12));
         x.ticks(2);
         is("so it merges", x, 0, 4, 30, 1);
+    }
+
+    /** ".. UP with j: it sends YES g to j": to the first, the last, and those between, whoever is chief. */
+    private static void thereOfEach() {
+        for (int chief = 0; chief < 8; chief += 7) {
+            String ranks = chief == 0 ? "8 7 6 5 4 3 2 1" : "1 2 3 4 5 6 7 8";
+            ChiefCircles x = Check.made("members 8;ranks " + ranks + ";every 4;wait 4;gap 5;");
+            x.ticks(22);
+            Check.due("THERE of seven", 7, x.sent(2, 1));
+            Check.due("YES to each, and YES of each", 14, x.sent(3, 0));
+            Check.due("NO to none", 0, x.sent(4, 0));
+            x.ticks(1);
+            for (int i = 0; i < 8; i++) {
+                is("rests, or waits for no more", x, i, i == chief ? 2 : 1, 20 + chief, 255);
+            }
+        }
     }
 
     /** "is i NORMAL, CHIEF itself, GROUP g ..: it sends YES g to j, else NO." */
