@@ -522,7 +522,7 @@ public final class ChiefCircles {
                 return false;
             }
             skipBlanks();
-            while (at < length) {
+            for (int line = 0; line < length && at < length; line++) {
                 if (!takeLine() || !takeEnd()) {
                     return false;
                 }
@@ -924,18 +924,17 @@ public final class ChiefCircles {
         int run(int ticks) {
             int handled = 0;
             for (int k = 0; k < ticks; k++) {
-                handled += tick();
+                handled += exchange();
+                toil();
             }
             return handled;
         }
 
-        int tick() {
-            int handled = exchange();
+        private void toil() {
             for (int i = 0; i < members; i++) {
                 labour(member[i]);
                 member[i].tallies[member[i].state]++;
             }
-            return handled;
         }
 
         /** A tick without its units and tallies: these sway no letter, so who asks for ONE alone can spare them. */
@@ -1154,7 +1153,7 @@ public final class ChiefCircles {
             if (i.group == group) {
                 return;
             }
-            int row = changed % MOST_CHANGES * CHANGE_WIDTH;
+            int row = Math.floorMod(changed, MOST_CHANGES) * CHANGE_WIDTH;
             changes[row] = clock;
             changes[row + 1] = i.number;
             changes[row + 2] = i.group;
@@ -1168,7 +1167,7 @@ public final class ChiefCircles {
         }
 
         int changeField(int k, int field) {
-            int row = (changed - changesTold() + k) % MOST_CHANGES;
+            int row = Math.floorMod(changed - changesTold() + k, MOST_CHANGES);
             return changes[row * CHANGE_WIDTH + field];
         }
 
@@ -1315,8 +1314,8 @@ public final class ChiefCircles {
         }
 
         static int leastLedger(World world, int job) {
-            int least = Integer.MAX_VALUE;
-            for (int i = 0; i < world.members; i++) {
+            int least = world.member[0].ledger[job];
+            for (int i = 1; i < world.members; i++) {
                 least = Math.min(least, world.member[i].ledger[job]);
             }
             return least;

@@ -45,7 +45,7 @@ public final class LanguageTest {
             Check.due("import of " + matcher.group(1), allowed.contains(matcher.group(1)));
         }
         Matcher library = Pattern.compile("\\b(Arrays|Math|Integer|Long)\\.(\\w+)").matcher(code);
-        Set<String> used = Set.of("fill", "copyOf", "copyOfRange", "max", "min", "abs", "bitCount", "MAX_VALUE");
+        Set<String> used = Set.of("fill", "copyOf", "copyOfRange", "max", "min", "abs", "bitCount", "floorMod");
         while (library.find()) {
             Check.due(library.group(), used.contains(library.group(2)));
         }
